@@ -316,6 +316,9 @@ public final class PromisesTest {
         is("partner of the sunk one", x.about(0, 9), 2);
         fails(x, "net of a sunk one with a net", STATE, () -> x.net(3, 0));
         is("third net", x.net(3, 5), 2);
+        is("first of the third net", x.told(2, 0), 3);
+        is("second of the third net", x.told(2, 1), 5);
+        is("first of the first net", x.told(0, 0), 4);
         is("nets", x.count(5), 3);
     }
 
