@@ -562,7 +562,8 @@ public final class PromisesTest {
         fillLoads(y, new int[][] {{4, 2, 2}, {7, 4, 7}, {3, 4, 10}, {2, 4, 12}, {0, 4, 12}});
         passNetsByNumbers();
         passAtTheEnd();
-        passOfTwoSkills();
+        passOfTwoSkills(4, 2);
+        passOfTwoSkills(2, 4);
     }
 
     /** Rows: what the hour caught, and the loads of the two then. */
@@ -631,11 +632,11 @@ public final class PromisesTest {
         is("told stays", x.told(0, 2), told + due);
     }
 
-    private static void passOfTwoSkills() {
+    private static void passOfTwoSkills(int skill, int other) {
         CoracleMakers x = stillWater();
         allRuns(x, 9);
-        x.make(12, 0, 4);
-        x.make(12, 0, 2);
+        x.make(12, 0, skill);
+        x.make(12, 0, other);
         x.net(0, 1);
         x.send(0, 15);
         x.send(1, 15);
