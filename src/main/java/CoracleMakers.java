@@ -187,7 +187,7 @@ public final class CoracleMakers {
             if (trial.isTogether(trial.netOf(net))) {
                 return hours;
             }
-            letHourPass(trial);
+            letHoursPass(trial, 1);
         }
         return NEVER;
     }
@@ -199,7 +199,7 @@ public final class CoracleMakers {
             if (!trial.coracleOf(coracle).afloat) {
                 return hours;
             }
-            letHourPass(trial);
+            letHoursPass(trial, 1);
         }
         return NEVER;
     }
@@ -264,15 +264,11 @@ public final class CoracleMakers {
 
     private int letHoursPass(River river, int hours) {
         int caught = 0;
-        for (int hour = 0; hour < hours; hour++) {
-            caught += letHourPass(river);
+        for (int i = 0; i < hours; i++) {
+            int row = Math.floorMod(river.hour, TABLE_HOURS);
+            caught += river.liveHour(drifts[row], runs[row]);
         }
         return caught;
-    }
-
-    private int letHourPass(River river) {
-        int row = Math.floorMod(river.hour, TABLE_HOURS);
-        return river.liveHour(drifts[row], runs[row]);
     }
 
     private int caughtWithGoal(int net, int goal, int hours) {
@@ -526,7 +522,10 @@ public final class CoracleMakers {
         /** Lets one hour go by, and returns how many salmon all nets catch in it. */
         int liveHour(int drift, int run) {
             moveAll(drift);
-            int caught = drawNets();
+            int caught = 0;
+            for (int number = 0; number < tied; number++) {
+                caught += draw(netOf(number));
+            }
             wearAll();
             if (Math.floorMod(hour, CLIMB_EVERY) == CLIMB_REMAINDER) {
                 climb();
@@ -542,14 +541,6 @@ public final class CoracleMakers {
                     coracle.move(drift);
                 }
             }
-        }
-
-        int drawNets() {
-            int caught = 0;
-            for (int number = 0; number < tied; number++) {
-                caught += draw(netOf(number));
-            }
-            return caught;
         }
 
         int draw(Net net) {
