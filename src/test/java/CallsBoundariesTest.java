@@ -580,6 +580,28 @@ public final class CallsBoundariesTest extends Checks {
         }
         CoracleMakers bare = new CoracleMakers();
         fails(bare, "meets(0) without nets", INDEX, () -> bare.meets(0));
+        CoracleMakers three = threeNets();
+        is("meets(0) of three", three.meets(0), 0);
+        is("meets(1) of three", three.meets(1), 3);
+        is("meets(2) of three", three.meets(2), 5);
+        fails(three, "meets(3) of three", INDEX, () -> three.meets(3));
+    }
+
+    /** The most coracles and nets, 5 hours on. The second ones of the nets are at 0, 3 and 5, to stay there. */
+    private static CoracleMakers threeNets() {
+        CoracleMakers x = stillWater();
+        for (int i = 0; i < 6; i++) {
+            x.make(4, i % 2, 1);
+        }
+        x.send(2, 3);
+        x.send(4, 5);
+        x.pass(5);
+        x.net(1, 0);
+        x.net(3, 2);
+        x.net(5, 4);
+        x.send(3, 15);
+        x.send(5, 15);
+        return x;
     }
 
     /** The first one is at the mouth, the second at its goal; the first goes up in one hour of 8, by one reach. */
@@ -655,6 +677,10 @@ public final class CallsBoundariesTest extends Checks {
         }
         CoracleMakers bare = new CoracleMakers();
         fails(bare, "sinks(0) without coracles", INDEX, () -> bare.sinks(0));
+        CoracleMakers six = threeNets();
+        is("sinks(0) of six", six.sinks(0), 32);
+        is("sinks(5) of six", six.sinks(5), 25);
+        fails(six, "sinks(6) of six", INDEX, () -> six.sinks(6));
     }
 
     private static void foresee() {
@@ -670,6 +696,17 @@ public final class CallsBoundariesTest extends Checks {
         is("foresee(1, 12)", x.foresee(1, 12), 3);
         for (int what : outside(0, 12)) {
             fails(x, "foresee(1, " + what + ")", INDEX, () -> x.foresee(1, what));
+        }
+
+        test("17: what: 0 to 12 as count() has it");
+        CoracleMakers y = stillPair(12, 12, 1, 1);
+        y.buy(0, 1);
+        y.buy(2, 1);
+        y.pass(1);
+        y.land(0);
+        int[] want = {4, 11, 26, 2, 2, 1, 2, 72, 2, 0, 2, 3, 4};
+        for (int what = 0; what < 13; what++) {
+            is("foresee(3, " + what + ")", y.foresee(3, what), want[what]);
         }
 
         test("17: Returns this, behind so many hours, if nothing else is done (nothing is changed).");
@@ -726,6 +763,11 @@ public final class CallsBoundariesTest extends Checks {
         }
         CoracleMakers bare = new CoracleMakers();
         fails(bare, "advise(0, 1) without nets", INDEX, () -> bare.advise(0, 1));
+        CoracleMakers three = threeNets();
+        is("advise(1, 3): 4 at 1 and 2, none at the market behind the net 0", three.advise(1, 3), 1);
+        is("advise(2, 3): 3 at 2 and 3", three.advise(2, 3), 2);
+        is("advise(2, 2), too far apart", three.advise(2, 2), 0);
+        fails(three, "advise(3, 1) of three", INDEX, () -> three.advise(3, 1));
 
         test("18: Throws IllegalArgumentException if hours is not 1 to 10");
         for (int hours : outside(1, 10)) {
