@@ -6,6 +6,7 @@ import java.util.List;
 public final class CallsBoundariesTest extends Checks {
     public static void main(String[] args) {
         newObject();
+        objectsByTurns();
         setDrift();
         setRun();
         buy();
@@ -49,6 +50,23 @@ public final class CallsBoundariesTest extends Checks {
         fails(x, "told(0, 0)", INDEX, () -> x.told(0, 0));
         is("drift", x.setDrift(0, 1), 1);
         is("hour of the used one", used.count(0), 4);
+    }
+
+    private static void objectsByTurns() {
+        test("1: Creates a river: one that no other object changes.");
+        CoracleMakers fished = stillPair(12, 12, 1, 1);
+        CoracleMakers other = new CoracleMakers();
+        other.make(4, 2, 6);
+        is("pass of the other", other.pass(3), 0);
+        is("drift of the first", fished.setDrift(1, 0), 0);
+        is("pass of the first", fished.pass(1), 3);
+        is("advise of the first", fished.advise(0, 1), 1);
+        is("sinks of the other", other.sinks(0), 23);
+        is("meets of the first", fished.meets(0), 0);
+        is("foresee of the other", other.foresee(4, 0), 7);
+        is("drift of the other", other.setDrift(1, 0), 1);
+        counts(fished, 1, 12, 26, 2, 2, 1, 3, 64, 0, 0, 1, 3, 3);
+        counts(other, 3, 12, 46, 1, 1, 0, 0, 73, 0, 0, 3, 3, 2);
     }
 
     private static void setDrift() {
